@@ -28,6 +28,8 @@ public final class StatueRelief {
     private static final long ALL_PARTS = 1_000_000_000_000L;
     private static final int SEED_MOST = 1_000_000;
     private static final int YEARS_MOST = 60;
+    // More than any row of reliefs is NOTICED by: what the first row found is held against.
+    private static final int EYES_BEYOND = 1_000_000;
 
     private static final int HOUR = 0;
     private static final int SNEEZES = 1;
@@ -1391,7 +1393,7 @@ public final class StatueRelief {
             }
             plannedHours = hours;
             found = false;
-            leastEyes = Integer.MAX_VALUE;
+            leastEyes = EYES_BEYOND;
             search(0, 0);
         }
 
@@ -1480,7 +1482,7 @@ public final class StatueRelief {
                 return;
             }
             lookAtAll(now);
-            leastEyes = Integer.MAX_VALUE;
+            leastEyes = EYES_BEYOND;
             place(now, 0, now.cashiered, 0);
             arranged = true;
         }

@@ -5,6 +5,7 @@ public final class ImageTest {
         keeps();
         keepsNot();
         laws();
+        otherLaws();
         stay();
         Check.finish();
     }
@@ -137,6 +138,35 @@ public final class ImageTest {
         Check.due("the last tells", x.of(0, 5), 6);
         x.force(1);
         Check.due("the second tells", x.of(0, 5), 5);
+    }
+
+    /** LAWS of other kinds and lengths take one another's places. */
+    private static void otherLaws() {
+        StatueRelief x = new StatueRelief();
+        x.man(9, 9);
+        x.man(9, 15);
+        x.image(0);
+        Check.inForce(x, "bars if hour < 5 and man = 1;notices 30 + man;rests 4 if 1 = 1;tires 5");
+        x.image(1);
+        x.back(0);
+        Check.inForce(x, "rests 7 - 1;tires 2 if 1 = 2");
+        Check.due("RESTS", x.of(0, 6), 6);
+        Check.due("TIRES", x.of(0, 5), 1);
+        Check.due("NOTICED", x.two(1, 0, 1), 2);
+        x.image(0);
+        for (int i = 0; i < 2; i++) {
+            x.back(1);
+            Check.due("BARRED", x.of(1, 7), 1);
+            Check.due("not BARRED", x.of(0, 7), 0);
+            Check.due("NOTICED", x.two(1, 0, 1), 31);
+            Check.due("RESTS", x.of(0, 6), 4);
+            Check.due("TIRES", x.of(0, 5), 5);
+            x.back(0);
+            Check.due("BARRED", x.of(1, 7), 0);
+            Check.due("NOTICED", x.two(1, 0, 1), 2);
+            Check.due("RESTS", x.of(0, 6), 6);
+            Check.due("TIRES", x.of(0, 5), 1);
+        }
     }
 
     private static void stay() {

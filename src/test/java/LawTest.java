@@ -173,6 +173,10 @@ public final class LawTest {
         tires("10", 9);
         tires("0-1", 0);
         tires("1;tires 2;tires 3 if 1=2", 2);
+        String deep = Check.times(8, "1+1*[") + "0" + Check.times(8, "]");
+        tires(deep, 8);
+        bars("1+7=" + deep, true);
+        bars("1+6=" + deep, false);
         tires("1;rests 5;notices 7", 1);
         tires("6 if man=0;rests 4", 1);
         bars("1<2", true);

@@ -35,6 +35,7 @@ public final class PaperTest {
         x.pass();
         x.pass();
         Check.due("HELD as it is, if he is UP: 1, then 3, then 6", x.holds(1), 1);
+        Check.due("HELD 0 for another one: 0, 1, 3, 6, then 10", x.holds(2), 4);
         Check.inForce(x, "tires 0");
         Check.due("99 at most", x.holds(2), 99);
         Check.inForce(x, "tires 9");
