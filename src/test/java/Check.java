@@ -21,7 +21,7 @@ final class Check {
         due(what, is ? 1 : 0, 1);
     }
 
-    /** A refusal: the answer, the status, and that it was counted. */
+    /** A refusal: the answer, and the status. */
     static void refused(String call, StatueRelief x, long got, int by) {
         due(call, got, by);
         due(call + ", status", x.status(), by);
@@ -59,6 +59,21 @@ final class Check {
         int law = law(x, text);
         so("law " + text, law >= 0);
         x.force(law);
+    }
+
+    /** A new object with MEN, each told by his HOLD and his LOOK. */
+    static StatueRelief men(int... holdsAndLooks) {
+        StatueRelief x = new StatueRelief();
+        for (int i = 0; i + 1 < holdsAndLooks.length; i += 2) {
+            x.man(holdsAndLooks[i], holdsAndLooks[i + 1]);
+        }
+        return x;
+    }
+
+    static void passes(StatueRelief x, int hours) {
+        for (int i = 0; i < hours; i++) {
+            x.pass();
+        }
     }
 
     static String times(int n, String what) {
