@@ -15,6 +15,7 @@ public final class EdgeLawTest {
         lastThatHolds();
         brokenOnes();
         otherAndUnlike();
+        otherAndUnlikeInDeeds();
         held();
         words();
         bars();
@@ -212,6 +213,23 @@ public final class EdgeLawTest {
         Check.due("the lowest other", y.two(1, 0, 1), 3);
         Check.due("the highest other", y.two(0, 2, 1), 25);
         Check.due("UNLIKE by none", alike().two(0, 1, 1), 40);
+    }
+
+    /** The same of what is done, and on paper: a relief, an HOUR, HOLDS, a MOMENT, a ROTA. */
+    private static void otherAndUnlikeInDeeds() {
+        String one = " if other > 0-1 or unlike > 0-1";
+        StatueRelief x = with("tires 9" + one + ";rests 9" + one + ";bars" + one);
+        x.relieve(0);
+        Check.due("a relief of one who is UP", x.relieve(1), 3);
+        Check.passes(x, 3);
+        Check.due("he TIRES by 1", x.of(1, 2), 3);
+        x.relieve(0);
+        x.pass();
+        Check.due("he RESTS by 1", x.of(1, 2), 2);
+        Check.due("HOLDS", x.holds(0), 4);
+        Check.due("a MOMENT", x.moment(1, 0), 5);
+        Check.due("LATER", x.later(2, 2), 0);
+        Check.due("a ROTA", x.rota(4, -1), 0);
     }
 
     private static StatueRelief alike() {

@@ -133,6 +133,10 @@ public final class EdgeLooksTest {
         y.terms(3, 1);
         dueChain(y, 0, 6, 1, 2, 3, 4, 5, 6);
         dueChain(y, 6, 0, 5, 4, 3, 2, 1, 0);
+        StatueRelief z = looks(0, 0, 0);
+        Check.inForce(z, "notices 9;notices 0 if man = other + 1");
+        dueChain(z, 0, 1, 1);
+        dueChain(z, 1, 1);
     }
 
     /** "NOTICED by EYES at most": 0 .. 99. */
@@ -269,6 +273,8 @@ public final class EdgeLooksTest {
         x.forget();
         Check.due("FEATURE 5, not", x.plate(5, 0), 1);
         Check.due("he has it not", x.canBe(), 1);
+        x.forget();
+        Check.due("forgotten", x.canBe(), 3);
     }
 
     /** "PLATES, 6 at most"; plate: "-5. It leaves what can be undone"; forget: "how many there were". */

@@ -89,6 +89,12 @@ public final class EdgePaperTest {
         x.pass();
         Check.due("TIRED 1, HELD 2: 3 6, then 10", x.holds(0), 2);
         Check.due("another one: HELD 0", x.holds(1), 4);
+        StatueRelief y = with("tires 0", 9, 0);
+        y.relieve(0);
+        Check.passes(y, 98);
+        Check.inForce(y, "tires 0;tires 1 if held = 99;tires 9 if held > 99");
+        Check.due("HELD 98, then 99 at most, on paper, too", y.later(4, 1), 3);
+        Check.due("an HOUR by 0, nine by 1", y.holds(0), 10);
     }
 
     /** later: "n 0 .. 60: who would be UP (what 0 ..), how TIRED MAN m would be (1 + m). NONE (others)." */
@@ -229,6 +235,9 @@ public final class EdgePaperTest {
                 Check.due("rota(" + n + ", " + i + ")", x.rota(n, i), -1);
             }
         }
+        for (int n : new int[] {0, -1, 6, LEAST, MOST}) {
+            Check.due("rota(" + n + ", NONE), behind one that is", x.rota(n, -1), -1);
+        }
         Check.due("of nobody", new StatueRelief().rota(1, -1), -1);
         Check.due("of nobody", new StatueRelief().rota(1, 0), -1);
     }
@@ -272,6 +281,18 @@ public final class EdgePaperTest {
         z.pass();
         Check.due("HELD as it is: 1", z.rota(1, -1), 0);
         Check.due("then 2", z.rota(2, -1), -1);
+        StatueRelief h = with("tires held*9", 8, 0, 8, 0, 8, 63);
+        h.relieve(2);
+        h.pass();
+        Check.due("HELD 0 for who RELIEVES, for an HOUR", h.rota(1, 0), 0);
+        Check.due("by 6", h.rota(1, -1), 6);
+        Check.due("then another one", h.rota(5, -1), 6);
+        for (int i = 0; i < 5; i++) {
+            Check.due("0 1 0 1 0", h.rota(5, i), i % 2);
+        }
+        Check.due("it is never below 0", with("tires 9 if held < 0", 8, 0).rota(1, 0), 0);
+        h.undo();
+        Check.due("2 could stay for an HOUR, but a row from 0 on is ahead of it", h.rota(5, 0), 0);
     }
 
     /** "or another one who RELIEVES him then, if that can be". */

@@ -9,6 +9,7 @@ public final class EdgeTextTest {
         clauses();
         numbers();
         parts();
+        oneTextBehindAnother();
         brackets();
         bracketsOfOneKind();
         faultAtTheEnd();
@@ -16,6 +17,7 @@ public final class EdgeTextTest {
         beyondByWrapping();
         cutTowards0();
         dividedBy0();
+        compared();
         orAnd();
         Check.finish();
     }
@@ -178,6 +180,21 @@ public final class EdgeTextTest {
         fault(true, "pass if 1=1" + Check.times(25, "or 1=1"), 158);
     }
 
+    /** The bounds are those of one TEXT, however many were read ahead of it. */
+    private static void oneTextBehindAnother() {
+        StatueRelief x = Check.men(9, 0);
+        String parts = "1" + Check.times(47, "+1") + " if [[[[[[[[1]]]]]]]]=1";
+        for (int i = 0; i < 9; i++) {
+            Check.due("ORDERS of 50 PARTS, " + i, Check.orders(x, "pass if 1=1" + Check.times(24, "or 1=1")), 1);
+            Check.due("12 CLAUSES, " + i, Check.orders(x, "pass" + Check.times(11, ";pass")), 12);
+            Check.refused("a LAW with 51, " + i, x, Check.law(x, "tires " + parts + "+1"), -6);
+            Check.refused("13 CLAUSES, " + i, x, Check.law(x, "bars" + Check.times(12, ";bars")), -6);
+        }
+        for (int i = 0; i < 6; i++) {
+            Check.due("a LAW of 50 PARTS", Check.law(x, "tires " + parts), i);
+        }
+    }
+
     /** "8 brackets of both kinds within one another (FAULT at the 9th)". */
     private static void brackets() {
         for (int round = 0; round <= 8; round++) {
@@ -281,6 +298,27 @@ public final class EdgeTextTest {
         test("1=1%0", -1);
         test("not 1/0=1", -1);
         test("not not 1/0=1", -1);
+    }
+
+    /** "SUM ("<" | ">" | "=") SUM": below, at, above, and what "not", "or", "and" make of each. */
+    private static void compared() {
+        String[] signs = {"<", ">", "="};
+        int[][] so = {{1, 0, 0}, {0, 0, 1}, {0, 1, 0}};
+        for (int sign = 0; sign < 3; sign++) {
+            for (int left = 0; left <= 2; left++) {
+                String test = left + signs[sign] + "1";
+                int is = so[sign][left];
+                test(test, is);
+                test("not " + test, 1 - is);
+                test("not not " + test, is);
+                test(test + " or 1=2", is);
+                test("1=2 or " + test, is);
+                test(test + " and 1=1", is);
+                test("1=1 and " + test, is);
+                test(test + (is == 1 ? " or 1/0=1" : " and 1/0=1"), is);
+                test(test + (is == 1 ? " and 1/0=1" : " or 1/0=1"), -1);
+            }
+        }
     }
 
     /** "("or", "and" ask what stands behind only if it can still matter)". */

@@ -269,11 +269,15 @@ public final class EdgeYearsTest {
             }
         }
         x.force(5);
+        for (int what = 1; what <= 3; what++) {
+            x.terms(what, 5 + what);
+        }
         x.relieve(6);
         x.pass();
         x.sneeze(0);
         x.image(1);
         x.back(0);
+        Check.due("TERMS", x.count(15) * 100 + x.count(16) * 10 + x.count(17), 102);
         Check.due("nothing at all", x.count(0) + x.count(4) + x.count(5) + x.count(6) + x.count(14), 0);
         Check.due("nobody, no LAW", x.count(2) + x.count(13), -2);
         Check.refused("nothing can be undone", x, x.undo(), -3);
@@ -282,12 +286,22 @@ public final class EdgeYearsTest {
         Check.due("all of it", x.count(0) * 100 + x.count(4) * 10 + x.count(5), 766);
         Check.due("UP, HELD", x.count(2) * 10 + x.count(3), 61);
         Check.due("in FORCE", x.count(13), 5);
-        Check.due("it tells", x.of(6, 2), 7);
+        Check.due("TERMS", x.count(15) * 100 + x.count(16) * 10 + x.count(17), 678);
+        Check.due("it tells", x.of(6, 5), 7);
+        x.force(0);
+        Check.due("the first, too", x.of(6, 5), 2);
+        Check.due("TIRED", x.of(6, 2), 7);
         Check.due("CASHIERED", x.of(0, 3), 1);
         Check.refused("there is no room again", x, x.man(1, 1), -5);
         Check.refused("for a LAW", x, Check.law(x, "bars"), -5);
         Check.refused("for a PLATE", x, x.plate(1, 1), -5);
         x.back(0);
+        x.man(1, 21);
+        for (int m = 0; m < 6; m++) {
+            x.man(1, 0);
+        }
+        Check.due("as new ones", x.of(6, 2) + x.of(0, 3), 0);
+        Check.due("without PLATES", x.canBe(), 127);
         x.back(0);
         Check.due("IMAGES stay", x.count(0), 0);
         x.back(1);

@@ -18,6 +18,10 @@ final class Texts {
         for (int i = 1; i < clauses; i++) {
             text.append(draw.nextInt(4) == 0 ? " ; " : ";").append(t.clause());
         }
+        if (draw.nextInt(16) == 0) {
+            // About as many PARTS as a TEXT may have.
+            text.append(orders ? ";sneeze 9" : ";tires 3").append("+1".repeat(40 + draw.nextInt(12)));
+        }
         if (draw.nextInt(5) == 0) {
             t.spoil(text);
         }

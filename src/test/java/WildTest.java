@@ -22,6 +22,7 @@ public final class WildTest {
                 }
                 call(x, calls[draw.nextInt(calls.length)], draw);
             }
+            Check.so("run " + run + " came to its end", true);
         }
         Check.finish();
     }
